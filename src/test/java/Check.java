@@ -16,6 +16,14 @@ final class Check {
         }
     }
 
+    void same(String what, String got, String want) {
+        asked++;
+        if (!got.equals(want)) {
+            wrong++;
+            System.out.println(test + ": " + what + " is " + got + ", due is " + want);
+        }
+    }
+
     void holds(String what, boolean is) {
         asked++;
         if (!is) {
