@@ -311,7 +311,7 @@ public final class JobSpread {
         if (!isWithin(k, 0, IMAGES - 1)) {
             return OUTSIDE;
         }
-        if ((kept & 1 << k) == 0) {
+        if ((kept & (1 << k)) == 0) {
             return STATE;
         }
         now.become(imageAt(k));
@@ -518,7 +518,7 @@ public final class JobSpread {
         }
 
         private int slots(int node) {
-            return Math.max(degree[node], 0) + 1;
+            return degree[node] > 0 ? degree[node] + 1 : 1;
         }
 
         private int rotorLeftOver(int node) {

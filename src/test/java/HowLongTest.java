@@ -15,6 +15,7 @@ public final class HowLongTest {
         ringLooksAtCarries();
         ringLooksAtRoundsByColours();
         ringNoLongerThanThreeHundred();
+        ringOfThreeHundred();
         ringRefuses();
         nothingChanges();
         CHECK.end();
@@ -124,6 +125,10 @@ public final class HowLongTest {
         JobSpread x = twoNodes(1);
         // It is at a, b, a, a, b, b: only the last is like an earlier one with both rotors.
         ring(x, ROTOR, 1, 4);
+        for (int i = 0; i < 4; i++) {
+            x.run(ROTOR, 1);
+            ring(x, ROTOR, 0, 4);
+        }
     }
 
     private static void ringLooksAtCarries() {
@@ -160,6 +165,16 @@ public final class HowLongTest {
         CHECK.due("a and p at first", a + p, 300);
         x.run(FLOW, 1);
         ring(x, FLOW, a - 1, p);
+    }
+
+    // One job that wanders by what is carried on, found by a search and agreed with by the model.
+    private static void ringOfThreeHundred() {
+        JobSpread x = Nets.of("dh3bf0ef1be0de2");
+        int[] speeds = {1, 2, 1, 2, 3, 1, 1, 2};
+        for (int i = 0; i < 8; i++) {
+            x.node(i, speeds[i], i == 3 ? 1 : 0);
+        }
+        ring(x, FLOW, 0, 300);
     }
 
     private static void ringRefuses() {

@@ -256,5 +256,14 @@ public final class RoundsTest {
         CHECK.due("told(0, 0)", x.told(0, 0), 3);
         CHECK.same("jobs behind reset", Nets.jobs(x), jobs);
         CHECK.due("reset() again", x.reset(), 0);
+        JobSpread y = Nets.of("gh0de0");
+        y.node(6, 1, 3);
+        y.node(4, 1, 3);
+        y.run(FLOW, 1);
+        CHECK.due("carry(6, 7)", y.carry(6, 7), 10003);
+        CHECK.due("carry(3, 4)", y.carry(3, 4), 9997);
+        CHECK.due("reset()", y.reset(), 1);
+        CHECK.due("carry(6, 7)", y.carry(6, 7), 10000);
+        CHECK.due("carry(3, 4)", y.carry(3, 4), 10000);
     }
 }
