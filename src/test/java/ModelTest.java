@@ -7,9 +7,6 @@ public final class ModelTest {
     private static final Check CHECK = new Check("ModelTest");
     private static final int OBJECTS = 1500;
     private static final int CALLS = 512;
-    private static final String[] NAMES = {"node", "edge", "say", "wipe", "fault", "net", "jobs", "told",
-        "carry", "run", "reset", "uneven", "share", "potential", "ideal", "until", "ring", "image",
-        "restore", "count"};
     // How often each call comes, in the order of the names.
     private static final int[] OFTEN = {14, 10, 0, 1, 4, 2, 8, 10, 8, 14, 1, 6, 6, 4, 8, 4, 3, 2, 3, 10};
     private static final int NET_BY_PAD = 7;
@@ -49,7 +46,7 @@ public final class ModelTest {
         for (String answer : must) {
             CHECK.holds("reached: " + answer, reached.containsKey(answer));
         }
-        for (String name : NAMES) {
+        for (String name : Calls.NAMES) {
             CHECK.holds("reached: " + name + " with an answer", reached.containsKey(name + " ok"));
         }
     }
@@ -118,7 +115,7 @@ public final class ModelTest {
             int[] wild = {-1, -2, 8, 9, 18, 51, 100, 1000, Integer.MIN_VALUE, Integer.MAX_VALUE};
             return wild[random.nextInt(wild.length)];
         }
-        switch (NAMES[which]) {
+        switch (Calls.NAMES[which]) {
             case "node":
                 return place == 0 ? random.nextInt(8) : place == 1 ? random.nextInt(4) + 1 : someJobs();
             case "edge":
@@ -157,35 +154,10 @@ public final class ModelTest {
             return;
         }
         calls++;
-        long got = ofClass(which, p, q, r);
+        long got = Calls.call(x, which, p, q, r);
         long want = ofModel(which, p, q, r);
-        CHECK.due(NAMES[which] + "(" + p + ", " + q + ", " + r + ") as call " + calls, got, want);
-        reached.merge(NAMES[which] + (want < 0 ? " " + want : " ok"), 1, Integer::sum);
-    }
-
-    private long ofClass(int which, int p, int q, int r) {
-        switch (which) {
-            case 0: return x.node(p, q, r);
-            case 1: return x.edge(p, q, r);
-            case 2: return x.say(p);
-            case 3: return x.wipe();
-            case 4: return x.fault();
-            case 5: return x.net();
-            case 6: return x.jobs(p);
-            case 7: return x.told(p, q);
-            case 8: return x.carry(p, q);
-            case 9: return x.run(p, q);
-            case 10: return x.reset();
-            case 11: return x.uneven(p);
-            case 12: return x.share(p, q);
-            case 13: return x.potential();
-            case 14: return x.ideal(p, q, r);
-            case 15: return x.until(p, q);
-            case 16: return x.ring(p, q);
-            case 17: return x.image(p);
-            case 18: return x.restore(p);
-            default: return x.count(p);
-        }
+        CHECK.due(Calls.NAMES[which] + "(" + p + ", " + q + ", " + r + ") as call " + calls, got, want);
+        reached.merge(Calls.NAMES[which] + (want < 0 ? " " + want : " ok"), 1, Integer::sum);
     }
 
     private long ofModel(int which, int p, int q, int r) {
