@@ -32,6 +32,10 @@ final class Check {
         }
     }
 
+    int asked() {
+        return asked;
+    }
+
     boolean isWrong() {
         return wrong > 0;
     }

@@ -8,14 +8,11 @@ public final class HowLongTest {
     public static void main(String[] args) {
         untilByEachRule();
         untilOfFractions();
-        untilNoLaterThanTwoHundred();
         untilRefuses();
         ringByEachRule();
         ringLooksAtRotors();
         ringLooksAtCarries();
         ringLooksAtRoundsByColours();
-        ringNoLongerThanThreeHundred();
-        ringOfThreeHundred();
         ringRefuses();
         nothingChanges();
         CHECK.end();
@@ -62,41 +59,6 @@ public final class HowLongTest {
         JobSpread x = Nets.of("ab0bc1cd0de1ef0fg1gh0");
         x.node(0, 1, jobs);
         return x;
-    }
-
-    private static void untilNoLaterThanTwoHundred() {
-        boolean reached = false;
-        for (int d = 99; d >= 0 && !reached; d--) {
-            JobSpread x = path(999);
-            int rounds = roundsUntil(x, d);
-            if (rounds > 200) {
-                reached = true;
-                runRounds(x, FLOW, rounds - 201);
-                CHECK.due("until(0, " + d + ") one round too early", x.until(FLOW, d), JobSpread.NONE);
-                x.run(FLOW, 1);
-                CHECK.due("until(0, " + d + ") in time", x.until(FLOW, d), 200);
-                x.run(FLOW, 1);
-                CHECK.due("until(0, " + d + ") a round later", x.until(FLOW, d), 199);
-            }
-        }
-        CHECK.holds("there is a path that takes more than 200 rounds", reached);
-    }
-
-    private static int roundsUntil(JobSpread x, int d) {
-        x.image(0);
-        int rounds = 0;
-        while (x.uneven(0) > d * x.uneven(1) && rounds < 400) {
-            x.run(FLOW, 1);
-            rounds++;
-        }
-        x.restore(0);
-        return rounds;
-    }
-
-    private static void runRounds(JobSpread x, int rule, int n) {
-        for (int i = 0; i < n; i++) {
-            x.run(rule, 1);
-        }
     }
 
     private static void untilRefuses() {
@@ -151,32 +113,6 @@ public final class HowLongTest {
         ring(x, EXCHANGE, 1, 4);
     }
 
-    private static void ringNoLongerThanThreeHundred() {
-        JobSpread x = path(999);
-        CHECK.due("ring(0, 0) of a path", x.ring(FLOW, 0), JobSpread.NONE);
-        CHECK.due("ring(0, 1) of a path", x.ring(FLOW, 1), JobSpread.NONE);
-        int rounds = 0;
-        while (x.ring(FLOW, 0) == JobSpread.NONE && rounds < 2000) {
-            x.run(FLOW, 1);
-            rounds++;
-        }
-        int a = x.ring(FLOW, 0);
-        int p = x.ring(FLOW, 1);
-        CHECK.due("a and p at first", a + p, 300);
-        x.run(FLOW, 1);
-        ring(x, FLOW, a - 1, p);
-    }
-
-    // One job that wanders by what is carried on, found by a search and agreed with by the model.
-    private static void ringOfThreeHundred() {
-        JobSpread x = Nets.of("dh3bf0ef1be0de2");
-        int[] speeds = {1, 2, 1, 2, 3, 1, 1, 2};
-        for (int i = 0; i < 8; i++) {
-            x.node(i, speeds[i], i == 3 ? 1 : 0);
-        }
-        ring(x, FLOW, 0, 300);
-    }
-
     private static void ringRefuses() {
         JobSpread x = twoNodes(10);
         int[][] outside = {{-1, 0}, {3, 0}, {0, -1}, {0, 2}, {3, 2},
@@ -198,8 +134,8 @@ public final class HowLongTest {
             x.until(rule, 3);
             x.ring(rule, 0);
             x.ring(rule, 1);
-            CHECK.same("view behind until and ring by rule " + rule, Nets.view(x), before);
         }
+        CHECK.same("view behind until and ring", Nets.view(x), before);
         x.restore(1);
         CHECK.same("view of the image behind until and ring", Nets.view(x), before);
     }

@@ -1,7 +1,7 @@
 /** Promises 4, 5, 6, 7: say, wipe, fault, net. */
 public final class PadTest {
     private static final Check CHECK = new Check("PadTest");
-    private static final String TWELVE = "ab0ac1ad2ae3af0ag1ah2bc3bd0be1bf2bg3";
+    private static final String TWELVE = Nets.TWELVE;
 
     public static void main(String[] args) {
         sayCountsSigns();
@@ -114,11 +114,11 @@ public final class PadTest {
     }
 
     private static void netRefuses() {
-        JobSpread x = Nets.of("ab0bc1");
-        x.node(0, 1, 3);
-        x.run(0, 1);
         String[] faulty = {"a", "cd", "cd0c", "cd0dc1", "cd7", TWELVE + "c"};
         for (String text : faulty) {
+            JobSpread x = Nets.of("ab0bc1");
+            x.node(0, 1, 3);
+            x.run(0, 1);
             Nets.say(x, text);
             String before = Nets.view(x);
             CHECK.due("net() of " + text, x.net(), JobSpread.FAULT);
