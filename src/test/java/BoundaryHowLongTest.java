@@ -74,7 +74,8 @@ public final class BoundaryHowLongTest {
     }
 
     private static void untilBounds() {
-        T.begin(17, "behind which UNEVEN is no more than d (0 to 99)");
+        T.begin(17, "behind which UNEVEN is no more than d (0 to 99); NONE: it is more behind each of them. Nothing"
+                + " changes. OUTSIDE: both.");
         T.due(new JobSpread(), "until(0, 0)", 0);
         T.due(twoNodes(99), "until(0, 99)", 0);
         T.due(twoNodes(100), "until(0, 99)", 1);

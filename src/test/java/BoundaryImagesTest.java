@@ -30,7 +30,7 @@ public final class BoundaryImagesTest {
     }
 
     private static void imageIsFirstOrSecond() {
-        T.begin(19, "is kept in an IMAGE (0, 1)");
+        T.begin(19, "is kept in an IMAGE (0, 1), in place of what was kept there: 1. OUTSIDE.");
         T.due(Nets.full(), "image(0)", 1);
         T.due(Nets.full(), "image(1)", 1);
         T.refused(Nets::busy, "image(-1)", OUTSIDE);

@@ -43,7 +43,7 @@ public final class BoundaryNodesTest {
     }
 
     private static void newHasNoJobs() {
-        T.begin(1, "no JOBS");
+        T.begin(1, "and JOBS (0 at first)");
         JobSpread x = new JobSpread();
         for (int i = 0; i < 8; i++) {
             T.due(x, "jobs(" + i + ")", 10000);
@@ -273,7 +273,7 @@ public final class BoundaryNodesTest {
     }
 
     private static void edgeInPlaceOfOneOfTwelve() {
-        T.begin(3, "in place of one that lay there");
+        T.begin(3, "An EDGE of a COLOUR is laid between two NODES, in place of one that lay there");
         for (int at = 0; at < 36; at += 3) {
             int a = Nets.TWELVE.charAt(at) - 'a';
             int b = Nets.TWELVE.charAt(at + 1) - 'a';
@@ -401,8 +401,8 @@ public final class BoundaryNodesTest {
     }
 
     private static void toldWhatIsOutside() {
-        T.begin(9, "SPEED (what = 0), how many EDGES (1), its ROTOR, left over by its SLOTS (2), the COLOUR of the"
-                + " EDGE to NODE what less 10 (10 to 17");
+        T.begin(9, "Of a NODE: SPEED (what = 0), how many EDGES (1), its ROTOR, left over by its SLOTS (2), the COLOUR"
+                + " of the EDGE to NODE what less 10 (10 to 17");
         JobSpread x = Nets.of("ah3hb1");
         T.due(x, "told(7, 0)", 1);
         T.due(x, "told(7, 1)", 2);

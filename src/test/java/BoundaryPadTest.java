@@ -153,7 +153,7 @@ public final class BoundaryPadTest {
     }
 
     private static void faultOfEmptyPad() {
-        T.begin(6, "NONE: there is none.");
+        T.begin(6, "how many signs it has; NONE: there is none.");
         fault("", NONE);
         JobSpread x = withPad("x");
         x.wipe();
@@ -237,7 +237,7 @@ public final class BoundaryPadTest {
     }
 
     private static void faultIsTheFirst() {
-        T.begin(6, "the place, from 0 on, of the first sign that can not stand there");
+        T.begin(6, "THE FAULT of THE PAD: the place, from 0 on, of the first sign that can not stand there");
         fault("!", 0);
         fault("!!!", 0);
         fault("a!!", 1);

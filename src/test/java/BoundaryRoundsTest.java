@@ -97,7 +97,7 @@ public final class BoundaryRoundsTest {
     }
 
     private static void flowByMeasure() {
-        T.begin(11, "MEASURE is 4 times (1 and the most EDGES that any NODE has).");
+        T.begin(11, "RULE 0, FLOW: MEASURE is 4 times (1 and the most EDGES that any NODE has).");
         T.due(net("ab0", 7), "run(0, 1)", 0);
         T.due(net("ab0", 8), "run(0, 1)", 1);
         T.due(net("ab0bc0", 11), "run(0, 1)", 0);
@@ -236,7 +236,8 @@ public final class BoundaryRoundsTest {
     }
 
     private static void exchangeCutsDown() {
-        T.begin(11, "a gets SPEED of a times these by both SPEEDS together, cut down, b likewise");
+        T.begin(11, "Of all JOBS of a and b together a gets SPEED of a times these by both SPEEDS together, cut down, b"
+                + " likewise");
         exchanged(new int[] {1, 4}, new int[] {0, 0}, "0 0");
         exchanged(new int[] {1, 4}, new int[] {4, 0}, "1 3");
         exchanged(new int[] {1, 4}, new int[] {5, 0}, "1 4");
@@ -281,12 +282,13 @@ public final class BoundaryRoundsTest {
         rotorDealsLessAsManyAndMoreThanSlots();
         rotorGoesOnBehindTheLast();
         rotorIsLeftOverBySlots();
+        rotorIsLeftOverAheadOfTheRound();
         rotorAllAtOnce();
         rotorBelowZero();
     }
 
     private static void rotorDealsJobsAboveZero() {
-        T.begin(11, "each NODE with JOBS above 0 deals all of these");
+        T.begin(11, "RULE 2, ROTOR: each NODE with JOBS above 0 deals all of these");
         JobSpread x = net("ab0", 0);
         T.due(x, "run(2, 1)", 0);
         T.due(x, "told(0, 2)", 0);
@@ -389,6 +391,26 @@ public final class BoundaryRoundsTest {
         T.same("rotors where nothing was dealt", Probe.ROTORS.of(x), "3 0 0 0 0 0 0 0 ");
     }
 
+    // The rotor of a is 7, of 8 slots; then some of its edges go, the greatest first.
+    private static void rotorIsLeftOverAheadOfTheRound() {
+        T.begin(11, "to the SLOTS from the ROTOR on (left over by SLOTS)");
+        for (int slots = 1; slots <= 8; slots++) {
+            JobSpread x = net(Nets.star(0), 7);
+            x.run(2, 1);
+            for (int other = 1; other < 8; other++) {
+                x.node(other, 1, 0);
+                x.edge(0, other, other < slots ? 0 : -1);
+            }
+            int slot = 7 % slots;
+            int gets = slot == slots - 1 ? 0 : slot + 1;
+            T.due(x, "told(0, 2)", slot);
+            x.node(0, 1, 1);
+            T.due(x, "run(2, 1)", gets == 0 ? 0 : 1);
+            T.due(x, "jobs(" + gets + ")", 10001);
+            T.due(x, "told(0, 2)", (slot + 1) % slots);
+        }
+    }
+
     private static void rotorAllAtOnce() {
         T.begin(11, "all at once by what they are ahead of the ROUND");
         JobSpread x = net("ab0bc0", 2);
@@ -416,7 +438,8 @@ public final class BoundaryRoundsTest {
     // ---- promise 11: MOVED
 
     private static void moved() {
-        T.begin(11, "(FLOW, EXCHANGE: by how many a has more or fewer by it; ROTOR: in both directions, each counted)");
+        T.begin(11, "MOVED in a ROUND: of all EDGES how many JOBS go (FLOW, EXCHANGE: by how many a has more or"
+                + " fewer by it; ROTOR: in both directions, each counted)");
         T.due(net("ab0cd0", 8, 0, 0, 16), "run(0, 1)", 3);
         T.due(net("ab0cd0", 8, 0, 0, 16), "run(1, 1)", 12);
         JobSpread x = net("ab0", 1, 1);

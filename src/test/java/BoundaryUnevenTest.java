@@ -85,7 +85,7 @@ public final class BoundaryUnevenTest {
     }
 
     private static void unevenBelowZero() {
-        T.begin(13, "the greatest LOAD less the least");
+        T.begin(13, "UNEVEN: the greatest LOAD less the least.");
         T.fraction(oneBelowZeroAlone(), "uneven(", 1, 1);
         T.fraction(Nets.withOneBelowZero(), "uneven(", 5, 4);
         T.fraction(Nets.withJobsBelowZero(), "uneven(", 9, 4);
@@ -226,6 +226,7 @@ public final class BoundaryUnevenTest {
         idealRefusalsInOrder();
         idealOfNothing();
         idealWithoutCarry();
+        idealOfUnlikeSpeeds();
         idealOfLongNumbers();
         idealChangesNothing();
     }
@@ -305,13 +306,31 @@ public final class BoundaryUnevenTest {
     }
 
     private static void idealWithoutCarry() {
-        T.begin(16, "as FLOW, but that nothing is cut (GO is a fraction), without what CARRY was");
+        T.begin(16, "IDEAL behind r ROUNDS: as FLOW, but that nothing is cut (GO is a fraction), without what CARRY"
+                + " was.");
         JobSpread x = Nets.of("ab0");
         x.node(0, 1, 7);
         x.run(0, 1);
         T.due(x, "carry(0, 1)", 10007);
         T.fraction(x, "ideal(0, 1, ", 49, 8);
         T.fraction(x, "ideal(1, 1, ", 7, 8);
+    }
+
+    // 5 times 2 less 7 times 3 are to go, by 8; then 51 times 2 less 45 times 3, by 64.
+    private static void idealOfUnlikeSpeeds() {
+        T.begin(16, "as FLOW, but that nothing is cut");
+        for (int a = 0; a < 8; a++) {
+            for (int b = a + 1; b < 8; b++) {
+                JobSpread x = new JobSpread();
+                x.edge(b, a, 3);
+                x.node(a, 3, 5);
+                x.node(b, 2, 7);
+                T.fraction(x, "ideal(" + a + ", 1, ", 51, 8);
+                T.fraction(x, "ideal(" + b + ", 1, ", 45, 8);
+                T.fraction(x, "ideal(" + a + ", 2, ", 441, 64);
+                T.fraction(x, "ideal(" + b + ", 2, ", 327, 64);
+            }
+        }
     }
 
     // A star: what the leaves have together, and what one leaf has more than another, shrink each by its

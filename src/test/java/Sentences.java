@@ -1,7 +1,3 @@
-import java.io.IOException;
-import java.nio.file.Files;
-import java.nio.file.Path;
-
 /**
  * Tests by the sentences of the document. Each test begins with the promise that it belongs to and the
  * words that it holds the class to; both stand in what is printed when an answer is not the one due.
@@ -16,60 +12,49 @@ final class Sentences {
     static final int[] FAR = {Integer.MIN_VALUE, Integer.MIN_VALUE + 1, -256, 256, 1 << 16, 1 << 30,
         Integer.MAX_VALUE - 1, Integer.MAX_VALUE};
 
-    private static final Path DOCUMENT = Path.of("../shared/DOC.md");
     private static final int PROMISES = 21;
+    /** For words that stand ahead of the promises and belong to all of them. */
+    static final int NO_PROMISE = 0;
     // Which answers below 0 the document tells with each promise, from promise 1 on.
     private static final int[][] TOLD_WITH = {{}, {-1, -2}, {-1, -2, -4}, {-2, -4}, {}, {-6}, {-7}, {-1},
         {-1, -2, -6}, {-1, -2, -6}, {-2}, {}, {-2}, {-1, -2, -3}, {}, {-1, -2, -3}, {-2, -6}, {-2, -6}, {-2},
         {-2, -3}, {-2}};
 
     private final Check check;
-    private final String document;
+    private final Document document = Document.read();
     // By promise, and by the number that was answered without its sign.
     private final boolean[][] answered = new boolean[PROMISES + 1][8];
     private final int[] tests = new int[PROMISES + 1];
-    private int promise = 0;
+    private int promise = NO_PROMISE;
     private String words = "";
+    private boolean isOpen = false;
     private int askedBefore = 0;
 
     Sentences(String test) {
         check = new Check(test);
-        document = read();
-    }
-
-    private static String read() {
-        try {
-            return plain(Files.readString(DOCUMENT));
-        } catch (IOException e) {
-            System.out.println("no document at " + DOCUMENT + ": the words of the tests are not looked up");
-            return "";
-        }
-    }
-
-    private static String plain(String text) {
-        return text.replaceAll("\\s+", " ");
     }
 
     /** Begins the test of a sentence: words of the document, as they stand there. */
     void begin(int ofPromise, String itsWords) {
         closeLast();
+        isOpen = true;
         promise = ofPromise;
         words = itsWords;
         tests[promise]++;
-        if (!document.isEmpty()) {
-            check.holds(label() + "the document has these words", document.contains(plain(words)));
+        if (document != null) {
+            check.holds(label() + "the document has these words", document.has(words));
         }
         askedBefore = check.asked();
     }
 
     private void closeLast() {
-        if (promise > 0) {
+        if (isOpen) {
             check.holds(label() + "something is asked", check.asked() > askedBefore);
         }
     }
 
     private String label() {
-        return "promise " + promise + " [" + words + "] ";
+        return (promise == NO_PROMISE ? "all" : "promise " + promise) + " [" + words + "] ";
     }
 
     /** A call, written as in Java, and the answer that is due. */
